@@ -1248,7 +1248,7 @@ public final class StrangerMarket {
 
         /** The least cut between stocks and wants, over all choices of those who still give out their stock. */
         int mostOf(int g) {
-            int least = Integer.MAX_VALUE;
+            int least = AS_OFTEN_AS_ONE_LIKES;
             int everyone = land.everyone();
             for (int giving = 0; giving <= everyone; giving++) {
                 int cut = 0;
@@ -1303,7 +1303,7 @@ public final class StrangerMarket {
 
         private int bestToAsk(int masked) {
             int best = NONE;
-            int least = Integer.MAX_VALUE;
+            int least = MOST_PERSONS + 1;
             for (int p = 0; p < land.persons; p++) {
                 int may = market.dealable(p);
                 int left = Math.max(Integer.bitCount(masked & may), Integer.bitCount(masked & ~may));
