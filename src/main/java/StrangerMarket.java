@@ -25,13 +25,13 @@ public final class StrangerMarket {
     private static final int FAULT_NAME = 3;
     private static final int FAULT_TOO_MANY = 4;
 
-    /** The words that can be no NAME, each with a blank behind it; the constants below are their places here. */
-    private static final String WORDS = "person good sells wants knows foes deals veils bell buys nods tells day or and not home veiled fed sold coins friends hunger number ";
     /** NAMES are held as numbers of this base, the letter a being 1: five bits a letter. */
     private static final int LETTER_BASE = 32;
     private static final int LETTER_BITS = 5;
     private static final int AHEAD_OF_A = 96;
 
+    /** The words that can be no NAME, each with a blank behind it; the constants below are their places here. */
+    private static final String WORDS = "person good sells wants knows foes deals veils bell buys nods tells day or and not home veiled fed sold coins friends hunger number ";
     private static final int W_PERSON = 0;
     private static final int W_GOOD = 1;
     private static final int W_SELLS = 2;
