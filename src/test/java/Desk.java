@@ -132,6 +132,33 @@ class Desk {
         return head + " ".repeat(to - head.length()) + tail;
     }
 
+    /** All that can be asked of COUNTY, DAY and SENTENCE without changing anything, the tape left out. */
+    static String all(StrangerMarket x) {
+        StringBuilder text = new StringBuilder();
+        int persons = x.count(0);
+        int goods = x.count(1);
+        for (int what = 0; what < 5; what++) text.append(x.count(what)).append(' ');
+        for (int what = 0; what < 8; what++) text.append(x.now(what)).append(' ');
+        for (int p = 0; p < persons; p++) {
+            for (int what = 0; what < 8; what++) text.append(x.person(p, what)).append(' ');
+            for (int g = 0; g < goods; g++) {
+                for (int what = 0; what < 3; what++) text.append(x.good(p, g, what)).append(' ');
+            }
+            for (int q = 0; q < p; q++) text.append(x.deals(p, q)).append(' ');
+        }
+        for (int k = -1; k < persons; k++) text.append(x.said(k)).append(' ');
+        return text.toString();
+    }
+
+    static void dueSame(String what, StrangerMarket x, String want) {
+        String got = all(x);
+        tried++;
+        if (!got.equals(want)) {
+            wrong++;
+            System.out.println(what + ": all is " + got + ", due is " + want);
+        }
+    }
+
     static void tellAndExit(String name) {
         System.out.println(name + ": " + tried + " answers, " + wrong + " not as due");
         if (wrong != 0) System.exit(1);
