@@ -413,6 +413,8 @@ final class CallBoundsTest extends Desk {
         due("1", x.nod(1, 1), 1);
         due("unknown foes may nod", x.nod(2, 3), 0);
         due("home", x.now(1), 4);
+        due("home", x.person(2, 4), 1);
+        due("the other is not", x.person(3, 4), 0);
         due("met", x.now(6), 1);
         due("1, 2", x.nod(2, 2), 1);
         due("2, 3", x.nod(2, 3), 2);
@@ -790,6 +792,10 @@ final class CallBoundsTest extends Desk {
         due("ask stays", x.ask(), 1);
         due("who not as told", who(x, 0, 3), -1);
         due("ask stays", x.ask(), 1);
+        due("who of the first alone", who(x, 2, 0), 1);
+        due("ask", x.ask(), 0);
+        due("who", who(x, 2, 1), 10);
+        due("ask", x.ask(), 1);
         x.nod(1, 0);
         x.nod(3, 0);
         due("as it was then", x.ask(), 1);
@@ -831,6 +837,10 @@ final class CallBoundsTest extends Desk {
         // Of d to g: a may with e, f; b may with d, g: two are needed; the least bits are d and e.
         due("two", x.serve(0), 2);
         due("the least as bits", x.serving(), 8 + 16);
+        // Fewer come ahead of less as bits: c alone, not a and b.
+        x = of(SEVEN + "good u;sells a u 1 0;sells b u 1 0;sells c u 1 0;wants d u 1;wants e u 1;knows a d;knows b e;");
+        due("one", x.serve(0), 1);
+        due("the fewest", x.serving(), 4);
         x = of("person a 0;person b 0;person c 0;good g;sells b g 1 0;sells c g 1 0;wants a g 1;deals 1;");
         due("one", x.serve(0), 1);
         due("the least as bits", x.serving(), 2);
@@ -897,9 +907,17 @@ final class CallBoundsTest extends Desk {
         due("it stays", x.chainAt(1), 5);
         x.veil(1);
         due("a veil is no matter", x.chain(0, 4), -1);
+        // a may with b and c, but c alone leads on to d.
+        x = of("person a 0;person b 0;person c 0;person d 0;knows a d;knows b d;");
+        due("one other", x.chain(0, 3), 1);
+        due("who leads on", x.chainAt(0), 2);
+        x = of("person a 0;person b 0;person c 0;person d 0;person e 0;knows a d;knows a e;knows b d;knows b e;knows c e;");
+        due("two others", x.chain(0, 4), 2);
+        due("who leads on", x.chainAt(0), 2);
+        due("then", x.chainAt(1), 3);
         county(x, "person a 0;person b 0;knows a b;");
         due("known", x.chain(0, 1), -1);
-        due("it stays", x.chainAt(0), 1);
+        due("it stays", x.chainAt(0), 2);
         county(x, "person a 0;person b 0;knows a b;foes a b;");
         due("foes may", x.chain(0, 1), 0);
     }
@@ -1060,14 +1078,17 @@ final class CallBoundsTest extends Desk {
 
     // "x becomes x * 1103515245 + 12345 (an int, wrapping), the draw is (x >>> 8) % n"; "(none: no more draws)"
     private static void drawsWrap() {
-        String[] lands = {TOWN, "person a 3;", "person a 3;person b 3;veils 1;", SEVEN + "good h;sells a h 9 0;sells b h 9 1;wants c h 9;wants d h 9;wants e h 1;foes a d;veils 3;deals 1;bell 2;"};
+        // In the fourth those who KNOW one another buy by veils alone; the fifth has no GOODS.
+        String[] lands = {TOWN, "person a 3;", "person a 3;person b 3;veils 1;",
+            "person a 3;person b 9;person c 9;good g;sells a g 9 1;wants b g 9;wants c g 9;knows a b;knows a c;veils 1;", SEVEN + "veils 2;",
+            SEVEN + "good h;sells a h 9 0;sells b h 9 1;wants c h 9;wants d h 9;wants e h 1;foes a d;veils 3;deals 1;bell 2;"};
         for (String land : lands) {
             for (int seed : new int[] {0, 1, -1, LEAST, MOST, 12345, -12345, 0x7fffff00, 0x80000100}) {
                 StrangerMarket x = of(land);
                 StrangerMarket y = of(land);
-                due("drawn", x.drawn(5, seed), 5);
+                due("drawn", x.drawn(20, seed), 20);
                 x0 = seed;
-                for (int day = 0; day < 5; day++) {
+                for (int day = 0; day < 20; day++) {
                     for (int p = 0; p < y.count(0); p++) live(y, p);
                     y.days(1);
                 }

@@ -329,6 +329,19 @@ final class TextBoundsTest extends Desk {
         dueCounty("person a 1;good a;", 16, 3);
         dueCounty("good a;person a 1;", 14, 3);
         dueLines("person a 1;good aa;person aaa 1;", 3);
+        // Of another sort: the first and the last of each.
+        String twelve = SEVEN + "good v;good w;good x;good y;good z;";
+        int at = twelve.length();
+        for (String good : new String[] {"v", "z"}) {
+            dueCounty(twelve + "sells " + good + " v 1 1;", at + 6, 3);
+            dueCounty(twelve + "wants " + good + " v 1;", at + 6, 3);
+            dueCounty(twelve + "knows " + good + " a;", at + 6, 3);
+            dueCounty(twelve + "foes a " + good + ";", at + 7, 3);
+        }
+        for (String person : new String[] {"a", "g"}) {
+            dueCounty(twelve + "sells a " + person + " 1 1;", at + 8, 3);
+            dueCounty(twelve + "wants a " + person + " 1;", at + 8, 3);
+        }
         dueCounty(SEVEN + "good g;", 82, 3);
         dueCounty("good a;good b;good c;good d;good e;person e 1;", 42, 3);
         // One must be told ahead of its use.
@@ -554,6 +567,9 @@ final class TextBoundsTest extends Desk {
         dueBook("ann tells bob 1;", 14, 1);
         dueBook("zed veils;", 0, 3);
         dueBook("oil veils;", 0, 3);
+        dueBook("bread veils;", 0, 3);
+        dueBook("ann nods bread;", 9, 3);
+        dueBook("ann buys dan dan;", 9, 3);
         dueBook("1 veils;", 0, 1);
         dueBook("(ann veils);", 0, 1);
         dueBook("person ann 1;", 0, 1);
@@ -694,6 +710,10 @@ final class TextBoundsTest extends Desk {
     // "'home' | 'veiled' | 'fed' | 'sold' | 'knows' PERSON | 'wants' GOOD (some, still)"
     private static void sentenceKinds() {
         StrangerMarket x = new StrangerMarket();
+        county(x, "person a 9;person b 0;good g;sells b g 1 0;wants a g 1;");
+        dueSaid(x, "sold", 1);
+        x.buy(0, 0, 1);
+        dueSaid(x, "sold", 1, 1);
         county(x, "person a 9;person b 0;person c 0;good g;good h;sells b g 1 0;sells b h 1 0;wants a g 1;wants a h 1;wants c g 1;");
         dueSaid(x, "sold", 1);
         dueSaid(x, "fed", 1, 1);
