@@ -737,6 +737,11 @@ final class CallBoundsTest extends Desk {
         due("twelve pairs", x.most(0), 24);
         x = of(SEVEN + "good h;sells a h 9 0;sells b h 9 0;sells c h 9 0;wants d h 9;wants e h 9;wants f h 9;wants g h 9;deals 9;");
         due("all stocks", x.most(0), 27);
+        // All sell it: nobody is left who could want it.
+        x = of("person a 0;good h;sells a h 3 0;");
+        due("one alone sells it", x.most(0), 0);
+        x = of("person a 0;person b 0;good h;sells a h 3 0;sells b h 1 0;foes a b;");
+        due("all sell it", x.most(0), 0);
     }
 
     private static int whoOf(StrangerMarket x, int bytes, int p, int may) {
@@ -813,6 +818,14 @@ final class CallBoundsTest extends Desk {
         x = of(SEVEN + "knows a b;knows a c;");
         due("who", who(x, 6, 1), 63);
         due("halves", x.ask(), 0);
+        // All KNOW one another: whoever is asked, all six are left.
+        StringBuilder pairs = new StringBuilder(SEVEN);
+        for (char p = 'a'; p <= 'g'; p++) {
+            for (char q = (char) (p + 1); q <= 'g'; q++) pairs.append("knows ").append(p).append(' ').append(q).append(';');
+        }
+        x = of(pairs.toString());
+        due("who", who(x, 3, 0), 119);
+        due("six are left by each", x.ask(), 0);
     }
 
     // Promises 19, 20: "how many PERSONS (0: nobody wants it); NONE: not by all, no such one"; "of like ones the least as bits"
