@@ -56,6 +56,7 @@ public final class StrangerMarket {
     private static final int W_FRIENDS = 21;
     private static final int W_HUNGER = 22;
     private static final int W_NUMBER = 23;
+    private static final int WORD_COUNT = 24;
 
     private final Tape tape;
     private final County land;
@@ -518,6 +519,8 @@ public final class StrangerMarket {
         private static final int NO_TOKEN = 4;
 
         private final int[] bytes = new int[ROOM];
+        /** WORDS as numbers, made once: each token is looked up here. */
+        private final long[] reserved = new long[WORD_COUNT];
         private int length;
         private int cut;
         private boolean isTooLong;
@@ -531,6 +534,18 @@ public final class StrangerMarket {
         private long letters;
         private int faultKind;
         private int faultPlace;
+
+        Tape() {
+            int place = 0;
+            for (int i = 0; i < WORDS.length() && place < WORD_COUNT; i++) {
+                char found = WORDS.charAt(i);
+                if (found == ' ') {
+                    place++;
+                } else {
+                    reserved[place] = reserved[place] * LETTER_BASE + found - AHEAD_OF_A;
+                }
+            }
+        }
 
         boolean hasRoomForFeed() {
             return length <= ROOM - FEED_BYTES;
@@ -607,18 +622,10 @@ public final class StrangerMarket {
             at++;
         }
 
-        private static int placeInWords(long name) {
-            long read = 0;
-            int place = 0;
-            for (int i = 0; i < WORDS.length(); i++) {
-                char found = WORDS.charAt(i);
-                if (found != ' ') {
-                    read = read * LETTER_BASE + found - AHEAD_OF_A;
-                } else if (read == name) {
+        private int placeInWords(long name) {
+            for (int place = 0; place < WORD_COUNT; place++) {
+                if (reserved[place] == name) {
                     return place;
-                } else {
-                    read = 0;
-                    place++;
                 }
             }
             return NONE;
@@ -1364,11 +1371,16 @@ public final class StrangerMarket {
             linkCount = steps - 1;
             int last = p;
             for (int k = 0; k < linkCount && k < MOST_PERSONS; k++) {
-                // The least of those who are one step nearer, so that the row is the first of the shortest.
-                last = bitAt(market.dealable(last) & within[steps - 1 - k], 0);
+                last = leastDealer(last, within[steps - 1 - k]);
                 links[k] = last;
             }
             return linkCount;
+        }
+
+        /** The least of some with whom p MAY deal: with those one step nearer, the row is the first of the shortest. */
+        private int leastDealer(int p, int some) {
+            int least = bitAt(market.dealable(p) & some, 0);
+            return least == NONE ? p : least;
         }
 
         private int withDealers(int some) {
@@ -1826,8 +1838,11 @@ public final class StrangerMarket {
             }
             if (word == W_KNOWS || word == W_WANTS) {
                 int named = word == W_KNOWS ? tape.passPerson(land) : tape.passGood(land);
+                if (named == NONE) {
+                    return false;
+                }
                 draft.addStep(word, NONE, named);
-                return named != NONE;
+                return true;
             }
             int sign = tape.sign;
             if (sign != '<' && sign != '=' && sign != '>') {
@@ -1835,8 +1850,11 @@ public final class StrangerMarket {
             }
             tape.next();
             int number = tape.passNumber(0, MOST_NUMBER);
+            if (number == NONE) {
+                return false;
+            }
             draft.addStep(word, sign, number);
-            return number != NONE;
+            return true;
         }
     }
 

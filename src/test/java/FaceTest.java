@@ -1,3 +1,4 @@
+import java.lang.reflect.Array;
 import java.lang.reflect.Constructor;
 import java.lang.reflect.Executable;
 import java.lang.reflect.Field;
@@ -7,8 +8,12 @@ import java.lang.reflect.Modifier;
 import java.nio.file.Files;
 import java.nio.file.Path;
 import java.util.ArrayList;
+import java.util.Collections;
+import java.util.IdentityHashMap;
 import java.util.List;
+import java.util.Map;
 import java.util.Set;
+import java.util.TreeMap;
 import java.util.TreeSet;
 import java.util.regex.Matcher;
 import java.util.regex.Pattern;
@@ -27,7 +32,10 @@ final class FaceTest {
         Path source = Path.of(args[1]);
         compareFace(doc);
         lookAtMembers();
-        lookAtText(Files.readString(source));
+        String text = Files.readString(source);
+        lookAtText(text);
+        lookAtCalls(methodsOf(codeOf(text)));
+        lookAtRoom();
         System.out.println("FaceTest: " + wrong + " complaints");
         if (wrong != 0) System.exit(1);
     }
@@ -75,8 +83,13 @@ final class FaceTest {
         }
     }
 
+    /** The source without comments and without what stands in its texts. */
+    private static String codeOf(String text) {
+        return text.replaceAll("(?s)/\\*.*?\\*/", "").replaceAll("//[^\n]*", "").replaceAll("\"[^\"\n]*\"", "\"\"");
+    }
+
     private static void lookAtText(String text) {
-        String code = text.replaceAll("(?s)/\\*.*?\\*/", "").replaceAll("//[^\n]*", "").replaceAll("\"[^\"\n]*\"", "\"\"");
+        String code = codeOf(text);
         String[] barred = {"->", "::", "\\btry\\b", "\\bcatch\\b", "\\bfinally\\b", "\\bassert\\b", "\\bsynchronized\\b",
             "\\bpackage\\b", "\\bprotected\\b", "\\bSystem\\.(?!arraycopy)", "\\bThread\\b", "\\bRandom\\b", "Exact\\(",
             "\"\" *\\+", "\\+ *\"\"", "static \\{", "\\binstanceof\\b", "\\bvar\\b", "hashCode", "toString", "\\bObject\\b"};
@@ -90,13 +103,78 @@ final class FaceTest {
         for (int i = 0; i < text.length(); i++) {
             if (text.charAt(i) > 126) complain("a sign above 126 at " + i);
         }
-        Matcher methods = Pattern.compile("(?ms)^( {4}| {8})(?:[\\w\\[\\]]+ )*\\w+\\([^)]*\\)[^;{]*\\{$(.*?)^\\1\\}").matcher(code);
+    }
+
+    /** Bodies by name; methods of one name in several classes stand together, which only makes rows of calls longer. */
+    private static Map<String, String> methodsOf(String code) {
+        Matcher m = Pattern.compile("(?ms)^( {4}| {8})(?:[\\w\\[\\]]+ )*(\\w+)\\([^)]*\\)[^;{]*\\{$(.*?)^\\1\\}").matcher(code);
+        Map<String, String> bodies = new TreeMap<>();
         int found = 0;
-        while (methods.find()) {
+        while (m.find()) {
             found++;
-            long lines = methods.group(2).lines().count();
-            if (lines > 60) complain("a method of " + lines + " lines: " + methods.group().lines().findFirst().get());
+            String name = m.group(2);
+            String body = m.group(3);
+            bodies.merge(name, body, String::concat);
+            if (body.lines().count() > 60) complain(name + " has " + body.lines().count() + " lines");
+            boolean isConstructor = Character.isUpperCase(name.charAt(0));
+            if (!isConstructor && Pattern.compile("(?<!throw )\\bnew\\b").matcher(body).find()) complain(name + " makes an object");
         }
-        if (found < 60) complain("only " + found + " methods found");
+        if (found < 150) complain("only " + found + " methods found");
+        return bodies;
+    }
+
+    /** Rules 8 and 11: only ONES within one another call themselves; all other rows of calls are at most eight long. */
+    private static void lookAtCalls(Map<String, String> bodies) {
+        Set<String> again = new TreeSet<>();
+        for (String name : bodies.keySet()) {
+            List<String> row = longestRow(name, bodies, new ArrayList<>(), again);
+            if (row.size() > 8) complain("calls go deep: " + row);
+        }
+        if (!again.equals(Set.of("readCond", "readOne"))) complain("methods that come back to themselves: " + again);
+    }
+
+    private static List<String> longestRow(String name, Map<String, String> bodies, List<String> open, Set<String> again) {
+        List<String> longest = new ArrayList<>();
+        open.add(name);
+        Matcher calls = Pattern.compile("(\\w+)\\(").matcher(bodies.getOrDefault(name, ""));
+        while (calls.find()) {
+            String called = calls.group(1);
+            if (Set.of("if", "for", "while", "switch").contains(called)) continue;
+            if (open.contains(called)) {
+                again.addAll(open.subList(open.indexOf(called), open.size()));
+                continue;
+            }
+            List<String> row = longestRow(called, bodies, open, again);
+            if (row.size() > longest.size()) longest = row;
+        }
+        open.remove(open.size() - 1);
+        longest.add(0, name);
+        return longest;
+    }
+
+    /** Rule 12: what one object holds is small, so that a thousand of them have room together. */
+    private static void lookAtRoom() throws Exception {
+        Set<Object> objects = Collections.newSetFromMap(new IdentityHashMap<>());
+        long places = placesIn(new StrangerMarket(), objects);
+        if (objects.size() > 300 || places > 7000) complain(objects.size() + " objects, " + places + " fields and elements");
+    }
+
+    private static long placesIn(Object o, Set<Object> seen) throws Exception {
+        if (o == null || !seen.add(o)) return 0;
+        long places = 0;
+        if (o.getClass().isArray()) {
+            places = Array.getLength(o);
+            if (o instanceof Object[] all) {
+                for (Object one : all) places += placesIn(one, seen);
+            }
+            return places;
+        }
+        for (Field f : o.getClass().getDeclaredFields()) {
+            if (Modifier.isStatic(f.getModifiers())) continue;
+            places++;
+            f.setAccessible(true);
+            if (!f.getType().isPrimitive()) places += placesIn(f.get(o), seen);
+        }
+        return places;
     }
 }

@@ -31,6 +31,7 @@ final class PromiseTest extends Desk {
         sentenceFaults();
         sentences();
         images();
+        readme();
         tellAndExit("PromiseTest");
     }
 
@@ -964,5 +965,31 @@ final class PromiseTest extends Desk {
         county(y, TOWN);
         due("restore of the new", y.restore(0), true);
         due("persons", y.count(0), 0);
+    }
+
+    // The two runs that README.md shows
+    private static void readme() {
+        StrangerMarket x = new StrangerMarket();
+        due("readme feed", x.feed(0x70657273, 0x6f6e2061, 0x6e6e2039, 0x3b202020, 0x20202020), 20);
+        due("readme end", x.end(13), true);
+        due("readme county", x.county(), 1);
+        due("readme coins", x.person(0, 0), 9);
+        due("readme days", x.days(1), 1);
+        due("readme undo", x.undo(), 0);
+        due("readme second county", county(x, "person ann 10;person bob 5;good bread;sells bob bread 3 2;wants ann bread 3;deals 2;"), 6);
+        due("readme most", x.most(0), 2);
+        due("readme first buy", x.buy(0, 0, 1), 0);
+        due("readme second buy", x.buy(0, 0, 1), 0);
+        due("readme third buy", x.buy(0, 0, 1), 3);
+        due("readme veil", x.veil(0), 0);
+        due("readme veiled buy", x.buy(0, 0, 1), 0);
+        due("readme face", x.face(0), 20);
+        dueFace(x, 0, "ann knows bob veiled");
+        due("readme undo of a buy", x.undo(), 3);
+        due("readme book", book(x, 0, "day 1; bob nods ann;"), 1);
+        due("readme told", x.told(0), 13);
+        due("readme sentence", sentence(x, "coins > 5 and not veiled"), 3);
+        due("readme how many", x.said(StrangerMarket.NONE), 1);
+        due("readme who", x.said(0), 1);
     }
 }
